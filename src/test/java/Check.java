@@ -31,7 +31,7 @@ final class Check {
         }
     }
 
-    /** The call throws just this class, and the digest of the object is the same behind it. */
+    /** The call throws just this class, by the program's own throw; the digest of the object is the same behind it. */
     static void refuses(SundogLine line, Class<? extends RuntimeException> due, String what, Call call) {
         long before = line.digest();
         looked++;
@@ -42,10 +42,19 @@ final class Check {
             if (thrown.getClass() != due) {
                 miss(what + " threw " + thrown.getClass().getSimpleName() + ", due is " + due.getSimpleName());
             }
+            if (!isThrownIn(thrown, "SundogLine")) {
+                miss(what + " threw what the library throws");
+            }
         }
         if (line.digest() != before) {
             miss(what + " threw and changed something");
         }
+    }
+
+    /** What a list throws by itself may be of the class that is due; where it was made tells it apart. */
+    static boolean isThrownIn(RuntimeException thrown, String className) {
+        StackTraceElement[] trace = thrown.getStackTrace();
+        return trace.length > 0 && trace[0].getClassName().equals(className);
     }
 
     static void report() {

@@ -24,6 +24,7 @@ public final class PromiseTest {
         promise12Odd();
         promise12Steady();
         promise12Steep();
+        promise12Twelve();
         promise13Guess();
         promise14Blame();
         promise15Advise();
@@ -83,6 +84,7 @@ public final class PromiseTest {
         Check.refuses(line, ARGUMENT, "2 drift -100", () -> line.build(1, 0, -100));
         Check.refuses(line, ARGUMENT, "2 drift 100", () -> line.build(1, 0, 100));
         Check.refuses(line, STATE, "2 place taken", () -> line.build(999, 0, 0));
+        Check.refuses(line, STATE, "2 place taken by the first", () -> line.build(0, 0, 0));
         Check.refuses(line, ARGUMENT, "2 argument ahead of place taken", () -> line.build(999, 601, 0));
         for (int i = 2; i < 12; i++) {
             Check.same("2 up to twelve", line.build(500 - i, 0, 0), i);
@@ -339,6 +341,28 @@ public final class PromiseTest {
         Check.same("20 steep error", line.error(0), 0.0);
     }
 
+    /** As many stations as there can be, on a straight line of readings but for the first built, at the last place. */
+    private static void promise12Twelve() {
+        int[] places = new int[12];
+        int[] readings = new int[12];
+        for (int i = 0; i < 12; i++) {
+            places[i] = 50 * (11 - i);
+            readings[i] = 1000 + 30 * (11 - i);
+        }
+        readings[0] -= 6 * 12;
+        SundogLine line = lineReading(places, readings);
+        expectHalo("12 all twelve", line, new int[] {12, 60, 1000, 0, -72, 12 - 1, 2});
+        Check.same("11 the first of twelve", line.order(0, 0), 11);
+        Check.same("11 the ninth of twelve", line.order(0, 8), 3);
+        Check.same("11 the tenth of twelve", line.order(0, 9), 0);
+        Check.same("11 the last of twelve", line.order(0, 11), 1);
+        Check.same("11 behind the last of twelve", line.order(0, 12), -1);
+        Check.same("13 guess of twelve", line.guess(0, 0), 1330);
+        Check.same("20 error of twelve", line.error(0), 6.0);
+        Check.same("14 blame of twelve", line.blame(0), 1);
+        Check.same("15 advice of twelve", line.advise(0), line.station(0, 3) - 72);
+    }
+
     private static void promise13Guess() {
         SundogLine line = lineReading(new int[] {0, 100, 200, 350}, new int[] {100, 110, 180, 0});
         Check.same("13 with the one that is far off", line.guess(0, 3), line.halo(0, 2) + line.halo(0, 1) * 350 / 100);
@@ -411,10 +435,12 @@ public final class PromiseTest {
         line.correct(1, 100);
         Check.same("16 by the corrections", line.wire(0, 1, 0), 66 + 30 - 100 - 10);
         Check.same("16 it may come behind the last time", line.wire(0, 1, 1000000), 1000066 - 70 - 1001010);
+        line.build(100, 0, 0);
+        Check.same("16 a third of the distance, not of the place", line.wire(2, 1, 0), 33 - 70);
         Check.refuses(line, ARGUMENT, "16 time -1", () -> line.wire(0, 1, -1));
         Check.refuses(line, ARGUMENT, "16 time 1000001", () -> line.wire(0, 1, 1000001));
-        Check.refuses(line, INDEX, "16 from 2 ahead of argument", () -> line.wire(2, 0, -1));
-        Check.refuses(line, INDEX, "16 to 2 ahead of argument", () -> line.wire(0, 2, -1));
+        Check.refuses(line, INDEX, "16 from 3 ahead of argument", () -> line.wire(3, 0, -1));
+        Check.refuses(line, INDEX, "16 to 3 ahead of argument", () -> line.wire(0, 3, -1));
         Check.refuses(line, INDEX, "16 from -1", () -> line.wire(-1, 0, 0));
         Check.refuses(line, INDEX, "16 to -1", () -> line.wire(0, -1, 0));
     }
@@ -451,6 +477,14 @@ public final class PromiseTest {
         Check.same("17 none is set, those before it neither", edge.station(2, 3), 100000 - 5);
         edge.correct(1, -100000);
         Check.refuses(edge, STATE, "17 it would be -100005", () -> edge.align(1, 0));
+        edge.correct(1, -100000 + 5);
+        Check.same("17 just -100000", edge.align(1, 0), 2);
+        Check.same("17 it stands at the first", edge.station(0, 3), -100000);
+        SundogLine first = new SundogLine();
+        first.build(0, 1, 0);
+        first.build(1, 0, 0);
+        first.correct(1, 100000);
+        Check.refuses(first, STATE, "17 the first would be 100001", () -> first.align(1, 0));
     }
 
     private static void promise18Spread() {
@@ -484,6 +518,10 @@ public final class PromiseTest {
         line.clear(0);
         Check.same("19 sightings behind clear", line.count(2), 5);
         Check.same("19 clouds behind clear", line.count(4), 1);
+        SundogLine dark = lineAt(new int[] {10}, zeros(1));
+        dark.addHalo(0, 11, 10, 1);
+        Check.same("19 the first halo unseen", dark.count(3), 1);
+        Check.same("19 no sighting", dark.count(2), 0);
         Check.refuses(line, INDEX, "19 what 5", () -> line.count(5));
         Check.refuses(line, INDEX, "19 what -1", () -> line.count(-1));
     }
@@ -494,6 +532,8 @@ public final class PromiseTest {
         line.correct(0, line.station(0, 3) - 1);
         // Readings 101 110 180: slopes 9 39 70; bases 101 71 102; left are 0 -30 1.
         Check.same("20 no whole number", line.error(0), 31.0 / 3);
+        SundogLine two = lineReading(new int[] {0, 300}, new int[] {0, -5});
+        Check.same("20 two see it, left are 2 and 0", two.error(0), 1.0);
         line.cloud(1, 0, 1000000);
         line.cloud(2, 0, 1000000);
         Check.same("20 one sees it", line.error(0), 0.0);
