@@ -37,31 +37,6 @@ public final class PromiseTest {
         Check.report();
     }
 
-    /** Stations at these places, with these corrections, whose clocks are right but for those. */
-    private static SundogLine lineAt(int[] places, int[] corrections) {
-        SundogLine line = new SundogLine();
-        for (int i = 0; i < places.length; i++) {
-            line.build(places[i], 0, 0);
-            line.correct(i, corrections[i]);
-        }
-        return line;
-    }
-
-    /** A line whose halo 0 comes to all stations, in ascending order of places, with these readings. */
-    private static SundogLine lineReading(int[] places, int[] readings) {
-        SundogLine line = new SundogLine();
-        int halo = line.addHalo(0, 0, 50, 0);
-        for (int i = 0; i < places.length; i++) {
-            line.build(places[i], 0, 0);
-            line.correct(i, line.comes(halo, i) - readings[i]);
-        }
-        return line;
-    }
-
-    private static int[] zeros(int length) {
-        return new int[length];
-    }
-
     private static void promise1NewObject() {
         SundogLine line = new SundogLine();
         for (int what = 0; what < 5; what++) {
@@ -96,7 +71,7 @@ public final class PromiseTest {
     }
 
     private static void promise3Cloud() {
-        SundogLine line = lineAt(new int[] {10, 20}, zeros(2));
+        SundogLine line = Lines.at(10, 20);
         line.addHalo(100, 10, 10, 0);
         Check.same("3 ends at the edge's time", line.cloud(0, 0, 100), 1);
         Check.same("3 'to' is free of it", line.reading(0, 0), 100);
@@ -116,7 +91,7 @@ public final class PromiseTest {
     }
 
     private static void promise4Clear() {
-        SundogLine line = lineAt(new int[] {10, 20}, zeros(2));
+        SundogLine line = Lines.at(10, 20);
         line.addHalo(100, 10, 10, 0);
         Check.same("4 none yet", line.clear(0), 0);
         line.cloud(0, 0, 1000);
@@ -201,7 +176,7 @@ public final class PromiseTest {
     }
 
     private static void promise9Comes() {
-        SundogLine line = lineAt(new int[] {499, 500, 501, 507}, zeros(4));
+        SundogLine line = Lines.at(499, 500, 501, 507);
         line.addHalo(1000, 500, 7, 0);
         line.addHalo(1000, 500, 7, 1);
         line.addHalo(1000, 500, 7, -1);
@@ -216,7 +191,7 @@ public final class PromiseTest {
         Check.refuses(line, INDEX, "9 halo -1", () -> line.comes(-1, 0));
         Check.refuses(line, INDEX, "9 station 4", () -> line.comes(0, 4));
         Check.refuses(line, INDEX, "9 station -1", () -> line.comes(0, -1));
-        SundogLine far = lineAt(new int[] {0}, zeros(1));
+        SundogLine far = Lines.at(0);
         far.addHalo(100000, 999, 1, -1);
         Check.same("9 the latest of all", far.comes(0, 0), 199900);
     }
@@ -242,7 +217,7 @@ public final class PromiseTest {
     }
 
     private static void promise11Order() {
-        SundogLine line = lineReading(new int[] {400, 300, 200, 100, 50}, new int[] {7, 5, 7, 5, 6});
+        SundogLine line = Lines.reading(new int[] {400, 300, 200, 100, 50}, new int[] {7, 5, 7, 5, 6});
         line.cloud(4, 0, 1000000);
         int[] due = {1, 3, 0, 2, -1, -1};
         for (int i = 0; i < due.length; i++) {
@@ -280,19 +255,19 @@ public final class PromiseTest {
 
     private static void promise12Middle() {
         // Slopes 10, 70 and 40 (of the first and the last); bases 100, 70 and 100.
-        expectHalo("12 middle of three slopes", lineReading(new int[] {0, 100, 200}, new int[] {100, 110, 180}),
+        expectHalo("12 middle of three slopes", Lines.reading(new int[] {0, 100, 200}, new int[] {100, 110, 180}),
                 new int[] {3, 40, 100, 1, -30, 3, 0});
         // Slopes 0 0 33 50 50 100: the one with number 2. Bases -33 0 1 34: the one with number 1.
-        expectHalo("12 of six slopes the third", lineReading(new int[] {0, 100, 200, 300}, new int[] {0, 0, 100, 100}),
-                new int[] {4, 33, 0, 2, 34, 4, 0});
+        expectHalo("12 of six slopes the third",
+                Lines.reading(new int[] {0, 100, 200, 300}, new int[] {0, 0, 100, 100}), new int[] {4, 33, 0, 2, 34, 4, 0});
         // Slope -6, of which 10 and 60 km make 0 and -3, not -1 and -4.
-        expectHalo("12 cut towards 0 in bases", lineReading(new int[] {10, 60}, new int[] {0, -3}),
+        expectHalo("12 cut towards 0 in bases", Lines.reading(new int[] {10, 60}, new int[] {0, -3}),
                 new int[] {2, -6, 0, 0, 0, 2, 1});
         // -500 / 300 is -1, not -2; bases 0 and -2.
-        expectHalo("12 cut towards 0 in slopes", lineReading(new int[] {0, 300}, new int[] {0, -5}),
+        expectHalo("12 cut towards 0 in slopes", Lines.reading(new int[] {0, 300}, new int[] {0, -5}),
                 new int[] {2, -1, -2, 0, 2, 2, 1});
         // Built in another order than they stand.
-        expectHalo("12 pairs by place, not number", lineReading(new int[] {200, 0, 100}, new int[] {180, 100, 110}),
+        expectHalo("12 pairs by place, not number", Lines.reading(new int[] {200, 0, 100}, new int[] {180, 100, 110}),
                 new int[] {3, 40, 100, 2, -30, 3, 0});
     }
 
@@ -300,14 +275,14 @@ public final class PromiseTest {
         // Slopes -10 -2 -2 -1 0 0 0 2 5 5 and base 50: left are 0 5 -5 0 0, so that 1 and 2 are as odd.
         int[] places = {0, 100, 200, 300, 400};
         int[] readings = {50, 55, 45, 50, 50};
-        SundogLine line = lineReading(places, readings);
+        SundogLine line = Lines.reading(places, readings);
         Check.same("12 slope of the flat one", line.halo(0, 1), 0);
         Check.same("12 odd of several is the smallest number", line.halo(0, 3), 1);
         Check.same("12 with its sign", line.halo(0, 4), 5);
-        SundogLine turned = lineReading(new int[] {0, 200, 100, 300, 400}, new int[] {50, 45, 55, 50, 50});
+        SundogLine turned = Lines.reading(new int[] {0, 200, 100, 300, 400}, new int[] {50, 45, 55, 50, 50});
         Check.same("12 the smallest number, not place", turned.halo(0, 3), 1);
         Check.same("12 with its sign, below 0", turned.halo(0, 4), -5);
-        SundogLine exact = lineReading(new int[] {0, 100, 200}, new int[] {1, 2, 3});
+        SundogLine exact = Lines.reading(new int[] {0, 100, 200}, new int[] {1, 2, 3});
         Check.same("12 nothing is left, so number 0", exact.halo(0, 3), 0);
     }
 
@@ -325,14 +300,14 @@ public final class PromiseTest {
     }
 
     private static void expectSteady(String name, int[] places, int[] readings, int steady, int falling) {
-        SundogLine line = lineReading(places, readings);
+        SundogLine line = Lines.reading(places, readings);
         Check.same(name + ", steady", line.halo(0, 5), steady);
         Check.same(name + ", pairs", line.halo(0, 6), falling);
     }
 
     private static void promise12Steep() {
         // Readings 100000 and -96000 a kilometre apart: slope -19600000; times 999 it leaves the ints.
-        SundogLine line = lineReading(new int[] {998, 999}, new int[] {100000, -96000});
+        SundogLine line = Lines.reading(new int[] {998, 999}, new int[] {100000, -96000});
         Check.same("12 steep slope", line.halo(0, 1), -19600000);
         Check.same("12 steep base", line.halo(0, 2), 195708000);
         Check.same("12 steep odd", line.halo(0, 3), 0);
@@ -350,7 +325,7 @@ public final class PromiseTest {
             readings[i] = 1000 + 30 * (11 - i);
         }
         readings[0] -= 6 * 12;
-        SundogLine line = lineReading(places, readings);
+        SundogLine line = Lines.reading(places, readings);
         expectHalo("12 all twelve", line, new int[] {12, 60, 1000, 0, -72, 12 - 1, 2});
         Check.same("11 the first of twelve", line.order(0, 0), 11);
         Check.same("11 the ninth of twelve", line.order(0, 8), 3);
@@ -364,7 +339,7 @@ public final class PromiseTest {
     }
 
     private static void promise13Guess() {
-        SundogLine line = lineReading(new int[] {0, 100, 200, 350}, new int[] {100, 110, 180, 0});
+        SundogLine line = Lines.reading(new int[] {0, 100, 200, 350}, new int[] {100, 110, 180, 0});
         Check.same("13 with the one that is far off", line.guess(0, 3), line.halo(0, 2) + line.halo(0, 1) * 350 / 100);
         line.cloud(3, 0, 1000000);
         Check.same("13 of one that does not see it", line.guess(0, 3), 240);
@@ -380,7 +355,7 @@ public final class PromiseTest {
     }
 
     private static void promise14Blame() {
-        SundogLine line = lineReading(new int[] {0, 100, 200}, new int[] {100, 110, 180});
+        SundogLine line = Lines.reading(new int[] {0, 100, 200}, new int[] {100, 110, 180});
         Check.same("14 the odd one", line.blame(1), 1);
         Check.same("14 another one", line.blame(0), 0);
         line.addHalo(500, 0, 50, 1);
@@ -394,7 +369,7 @@ public final class PromiseTest {
     }
 
     private static void promise15Advise() {
-        SundogLine line = lineReading(new int[] {0, 100, 200}, new int[] {100, 110, 180});
+        SundogLine line = Lines.reading(new int[] {0, 100, 200}, new int[] {100, 110, 180});
         int now = line.station(1, 3);
         Check.same("15 what is left is taken off too", line.advise(1), now - 30);
         Check.same("15 nothing is changed", line.station(1, 3), now);
@@ -499,7 +474,7 @@ public final class PromiseTest {
     }
 
     private static void promise19Count() {
-        SundogLine line = lineAt(new int[] {10, 20, 30}, zeros(3));
+        SundogLine line = Lines.at(10, 20, 30);
         line.addHalo(0, 20, 10, 1);
         line.addHalo(0, 31, 10, 1);
         line.addHalo(0, 20, 10, 0);
@@ -514,7 +489,7 @@ public final class PromiseTest {
         line.clear(0);
         Check.same("19 sightings behind clear", line.count(2), 5);
         Check.same("19 clouds behind clear", line.count(4), 1);
-        SundogLine dark = lineAt(new int[] {10}, zeros(1));
+        SundogLine dark = Lines.at(10);
         dark.addHalo(0, 11, 10, 1);
         Check.same("19 the first halo unseen", dark.count(3), 1);
         Check.same("19 no sighting", dark.count(2), 0);
@@ -523,12 +498,12 @@ public final class PromiseTest {
     }
 
     private static void promise20Error() {
-        SundogLine line = lineReading(new int[] {0, 100, 200}, new int[] {100, 110, 180});
+        SundogLine line = Lines.reading(new int[] {0, 100, 200}, new int[] {100, 110, 180});
         Check.same("20 left are 0, -30, 0", line.error(0), 10.0);
         line.correct(0, line.station(0, 3) - 1);
         // Readings 101 110 180: slopes 9 39 70; bases 101 71 102; left are 0 -30 1.
         Check.same("20 no whole number", line.error(0), 31.0 / 3);
-        SundogLine two = lineReading(new int[] {0, 300}, new int[] {0, -5});
+        SundogLine two = Lines.reading(new int[] {0, 300}, new int[] {0, -5});
         Check.same("20 two see it, left are 2 and 0", two.error(0), 1.0);
         line.cloud(1, 0, 1000000);
         line.cloud(2, 0, 1000000);
